@@ -1410,6 +1410,7 @@ public final class RefusedLast {
         private final long[] seen = new long[STATES >> 6];
         private long[] line = new long[ROOM_AT_FIRST];
         private int count = 0;
+        private int goalAt = 0;
         private int length = 0;
 
         private boolean takes(Yard y) {
@@ -1437,11 +1438,11 @@ public final class RefusedLast {
             }
             forget();
             append(start, 0, 0);
-            for (int i = 0; i < count; i++) {
+            for (int i = 0; i < count && i < STATES; i++) {
                 int state = stateAt(i);
                 if (state >> PLACES_AT == goal) {
+                    goalAt = i;
                     length = stepsTo(i);
-                    count = i + 1;
                     return true;
                 }
                 for (int k = 0; k < y.carts; k++) {
@@ -1462,9 +1463,10 @@ public final class RefusedLast {
             return y.letsIn(g, memory, y.colour[k]) ? then + (1 << at) : then;
         }
 
+        /** Only what the last search saw is wiped: mostly that is far less than all. */
         private void forget() {
-            for (int i = 0; i < seen.length; i++) {
-                seen[i] = 0;
+            for (int i = 0; i < count; i++) {
+                seen[stateAt(i) >> 6] = 0;
             }
             count = 0;
         }
@@ -1497,7 +1499,7 @@ public final class RefusedLast {
 
         private int stepsTo(int i) {
             int steps = 0;
-            for (int at = i; at > 0; at = fromAt(at)) {
+            for (int at = i; at > 0 && steps < count; at = fromAt(at)) {
                 steps++;
             }
             return steps;
@@ -1516,9 +1518,9 @@ public final class RefusedLast {
             return length - let;
         }
 
-        /** The CART of the i-th TRY of the way that was found, which ends at the last state in line. */
+        /** The CART of the i-th TRY of the way that was found. */
         private int cartAt(int i) {
-            int at = count - 1;
+            int at = goalAt;
             for (int left = length - 1 - i; left > 0 && at > 0; left--) {
                 at = fromAt(at);
             }
