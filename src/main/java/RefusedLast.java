@@ -1472,11 +1472,12 @@ public final class RefusedLast {
         }
 
         private void append(int state, int from, int cart) {
+            int word = (state & STATE_MASK) >> 6;
             long bit = 1L << (state & 63);
-            if ((seen[state >> 6] & bit) != 0) {
+            if ((seen[word] & bit) != 0) {
                 return;
             }
-            seen[state >> 6] |= bit;
+            seen[word] |= bit;
             if (count >= line.length) {
                 grow();
             }

@@ -111,13 +111,24 @@ public final class DrawsTest {
         x.gate(0, 0);
         check.due("43: nor when there is one again", x.holds(3), -1);
         check.due("43: it says what it knows", x.says(0, 1), 0);
+        check.due("43: a new gate's scratches", x.gateOf(3, 5), 0);
+        check.due("43: a new gate's memory", x.gateOf(3, 2), -1);
         x.tries(1);
         check.due("43: back once more", x.back(), 1);
         check.due("43: the image was left as it was", x.status(4), 1);
         x.image();
-        x.cart(0);
+        Check.read(x, "cart 0 at 2; gate 1 0; cart 0 at 3");
+        x.tell(3, 2, 1);
+        x.tries(3);
         x.back();
         check.due("42: the newest image", x.status(1), 2);
+        x.cart(0);
+        x.cart(2);
+        x.gate(1, 0);
+        check.due("43: a new cart stands at 0", x.cartOf(2, 1), 0);
+        check.due("43: and another", x.cartOf(3, 1), 0);
+        check.due("43: a new gate knows nothing", x.gateOf(3, 2), -1);
+        check.due("43: and has no scratches", x.gateOf(3, 5), 0);
     }
 
     private static void statuses() {

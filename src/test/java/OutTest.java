@@ -51,6 +51,9 @@ public final class OutTest {
         // never twice to one: another must come between, and there is none
         check.due("28: LET, alone twice", Check.yard("gate 4 0 knows 0 knows 0; cart 0").out(0), -5);
         way(Check.yard("gate 4 0; cart 0; cart 1"), 2, 0, 0, 1, 1);
+        // each of three gates must be refused by each colour, the colours going one after the other
+        way(Check.yard("gate 1 0; gate 1 0; gate 1 0; cart 1; cart 2; cart 0"), 9,
+                0, 0, 0, 0, 0, 0, 1, 1, 1, 1, 1, 1, 2, 2, 2, 2, 2, 2);
         check.due("28: LET to two of one colour", Check.yard("gate 4 0; cart 0; cart 0").out(0), -5);
         way(Check.yard("gate 4 0; cart 0; cart 1; cart 0"), 3, 0, 0, 1, 1, 2, 2);
         // a memory shared: refused at the first, let in at both
@@ -100,6 +103,7 @@ public final class OutTest {
         check.due("30: the first of those that do nothing", fewer.foe(), 0);
         RefusedLast carts = Check.yard("gate 5 1; gate 0 0");
         check.due("30: no carts, the first", carts.foe(), 0);
+        check.due("30: no third of two colours", Check.yard("colours 2; gate 2 0 knows 0 knows 1; cart 0; cart 1").foe(), 0);
         RefusedLast never = Check.yard("gate 4 0 knows 0 knows 1; cart 0");
         check.due("28: let in at once", never.out(0), 0);
         check.due("31: never then", never.harm(0, 0), 99);

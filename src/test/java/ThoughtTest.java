@@ -123,22 +123,28 @@ public final class ThoughtTest {
         // BUT tried 0 1 2 2: (2, 2) 0 refused (0, 2), 1 refused (1, 0), 2 refused (2, 1), 2 refused (2, 2)
         Check.fill(x, 3, 0, 1, 2, 2);
         check.due("37: BUT, let", x.stream(3, 4, 5, 0), 0);
-        // TWO tried 0 1 1 2 at FIRST 0, SECOND 1 needs two rounds till it is as it was
-        RefusedLast y = Check.yard("gate 2 0");
-        Check.fill(y, 0, 0, 1, 0, 2);
-        int rounds = y.stream(0, 4, 0, 1);
-        int let = y.stream(0, 4, 0, 0);
-        check.due("37: as told by rounds", let, letBehind20(new int[] {0, 1, 0, 2}, rounds));
+        // BUT tried 2 1 from (1, 2) on: 2 let in, (1, 1), (2, 1), 1 let in, (2, 2), (1, 2)
+        Check.fill(x, 4, 2, 1, 1);
+        check.due("37: BUT, let in three rounds", x.stream(4, 2, 5, 0), 2);
+        check.due("37: BUT, three rounds", x.stream(4, 2, 5, 1), 3);
+        check.due("37: BUT, let in two rounds", x.stream(4, 3, 5, 0), 2);
+        check.due("37: BUT, two rounds", x.stream(4, 3, 5, 1), 2);
+        RefusedLast y = Check.yard("gate 3 0");
+        Check.fill(y, 0, 0, 1, 0, 2, 1);
+        for (int n = 1; n <= 5; n++) {
+            int let = letBehind20(new int[] {0, 1, 0, 2, 1}, n, y.stream(0, n, 0, 1));
+            check.due("37: as it is in truth, " + n, y.stream(0, n, 0, 0), let);
+        }
         check.due("37: not 21", y.stream(0, 21, 0, 0), -2);
     }
 
-    /** Tries the row in truth, round for round, on carts that are painted. */
-    private static int letBehind20(int[] row, int rounds) {
-        RefusedLast x = Check.yard("gate 2 0; cart 0");
+    /** Tries the first n in truth, round for round, by a cart that is painted. */
+    private static int letBehind20(int[] row, int n, int rounds) {
+        RefusedLast x = Check.yard("gate 3 0; cart 0");
         int let = 0;
         for (int round = 0; round < 20 + rounds; round++) {
-            for (int c : row) {
-                x.paint(0, c);
+            for (int i = 0; i < n; i++) {
+                x.paint(0, row[i]);
                 x.place(0, 0);
                 let += x.tries(0) == 1 && round >= 20 ? 1 : 0;
             }

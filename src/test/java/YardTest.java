@@ -178,7 +178,8 @@ public final class YardTest {
 
     private static void triesOfCarts() {
         RefusedLast x = Check.yard("colours 2; gate 0 5; gate 3 0; share 1 0; cart 1; cart 0");
-        check.due("2: a is taken modulo 2", x.opens(0), 2);
+        check.due("21: a is taken modulo 2", x.opens(0), 2);
+        check.due("21: both of two colours", Check.yard("colours 2; gate 5 1").opens(0), 3);
         check.due("23: let in", x.tries(0), 1);
         check.due("23: refused", x.tries(1), 0);
         check.due("23: the first gate remembers nothing", x.gateOf(0, 2), -1);
