@@ -197,12 +197,12 @@ public final class RefusedLast {
         if (!now.isGate(gate) || other < NONE || other >= gate) {
             return refuse(BAD);
         }
-        if (other != NONE && now.uses[other] != other || now.isUsedByOther(gate)) {
-            return refuse(STUCK);
-        }
         int owner = other == NONE ? gate : other;
         if (now.uses[gate] == owner) {
             return 0;
+        }
+        if (other != NONE && (now.uses[other] != other || now.isUsedByOther(gate))) {
+            return refuse(STUCK);
         }
         now.uses[gate] = owner;
         return 1;
@@ -407,6 +407,9 @@ public final class RefusedLast {
     }
 
     public int foe() {
+        if (now.gates == 0) {
+            return NONE;
+        }
         if (!search.takes(now)) {
             return refuse(STUCK);
         }

@@ -366,16 +366,18 @@ public final class Model {
         if (!gateThere(gate) || other != -1 && !gateThere(other) || other >= gate) {
             return no(-2);
         }
-        if (other != -1 && now.gates.get(other).used != now.gates.get(other).own) {
-            return no(-5);
-        }
-        if (now.othersUse(gate)) {
-            return no(-5);
-        }
         Memory m = now.gates.get(other == -1 ? gate : other).own;
-        Memory was = now.gates.get(gate).used;
+        if (now.gates.get(gate).used == m) {
+            return 0;
+        }
+        if (other != -1 && now.gates.get(other).used != m) {
+            return no(-5);
+        }
+        if (other != -1 && now.othersUse(gate)) {
+            return no(-5);
+        }
         now.gates.get(gate).used = m;
-        return was == m ? 0 : 1;
+        return 1;
     }
 
     public int feed(int letter) {
@@ -715,6 +717,9 @@ public final class Model {
     }
 
     public int foe() {
+        if (now.gates.isEmpty()) {
+            return -1;
+        }
         if (tooMany()) {
             return no(-5);
         }

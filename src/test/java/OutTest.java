@@ -89,6 +89,10 @@ public final class OutTest {
 
     private static void foes() {
         check.due("30: no gates", new RefusedLast().foe(), -1);
+        RefusedLast noGates = Check.yard("cart 0; cart 0; cart 0; cart 0");
+        check.due("30: no gates, 4 carts", noGates.foe(), -1);
+        check.due("30: that isn't refused", noGates.status(15), 0);
+        check.due("28: no gates, 4 carts", noGates.out(0), -5);
         RefusedLast x = Check.yard("gate 5 1; gate 1 0 knows 2; cart 2");
         check.due("30: a refused colour at gate 1", x.foe(), 10);
         check.due("31: one more", x.harm(1, 0), 1);

@@ -103,6 +103,11 @@ public final class YardTest {
         check.due("15: no gate -1", x.share(-1, -1), -2);
         check.due("15: 3 uses that of 2", x.share(3, 2), 1);
         check.due("15: another uses that of 2", x.share(2, 0), -5);
+        check.due("15: it can't be twice", x.status(15), 2);
+        check.due("15: 2 uses its own, as another does", x.share(2, -1), 0);
+        check.due("15: 3 still uses it", x.gateOf(3, 4), 2);
+        check.due("15: that isn't refused", x.status(15), 2);
+        check.due("15: not above, though it is used", x.share(2, 3), -2);
         check.due("15: its own again", x.share(1, -1), 1);
         check.due("15: which it kept", x.gateOf(1, 2), 1);
         check.due("15: it did use its own", x.share(1, -1), 0);
