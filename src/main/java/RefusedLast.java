@@ -1480,15 +1480,18 @@ public final class RefusedLast {
             if ((seen[word] & bit) != 0) {
                 return;
             }
-            seen[word] |= bit;
             if (count >= line.length) {
                 grow();
             }
-            line[count++] = state | (long) from << STATE_BITS | (long) cart << CART_AT;
+            if (count < line.length) {
+                seen[word] |= bit;
+                line[count++] = state | (long) from << STATE_BITS | (long) cart << CART_AT;
+            }
         }
 
+        /** No line needs to be longer than there are states, as each stands in it once. */
         private void grow() {
-            long[] longer = new long[2 * line.length];
+            long[] longer = new long[Math.min(STATES, 2 * line.length)];
             System.arraycopy(line, 0, longer, 0, line.length);
             line = longer;
         }
